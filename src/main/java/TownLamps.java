@@ -1177,7 +1177,7 @@ public final class TownLamps {
             }
         }
 
-        static boolean isLetter(int b) {
+        private static boolean isLetter(int b) {
             return b >= 'a' && b <= 'z';
         }
     }
@@ -1242,7 +1242,7 @@ public final class TownLamps {
         }
 
         private static int formOf(int b) {
-            if (Book.isLetter(b)) {
+            if (b >= 'a' && b <= 'z') {
                 return LETTERS;
             }
             return b >= '0' && b <= '9' ? DIGITS : OTHER;

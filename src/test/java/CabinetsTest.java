@@ -266,6 +266,10 @@ public final class CabinetsTest {
         y.hours(1);
         Due.is("BURNT by 1000", y.told(0, 4), 1000);
         Due.is("DRAWS by 1000", y.told(0, 9), 51);
+        y.hours(11);
+        y.lamp(1, 0, 990);
+        Due.is("hour", y.count(9), 1);
+        Due.is("DIMMED 99 at 1", y.told(1, 9), 49);
         Due.is("SENSOR: the third is cut", sensorDraws(20), 14);
         Due.is("SENSOR of 1", sensorDraws(1), 1);
         Due.is("SENSOR of 3", sensorDraws(3), 2);

@@ -218,6 +218,11 @@ public final class HoursTest {
         fault("dim!h", -1);
         fault("di 5", 0);
         fault("dims 5", 0);
+        fault("xim 5", 0);
+        fault("xife 5", 0);
+        fault("xrice 5", 0);
+        fault("xaw 5", 0);
+        fault("law z", 4);
         fault("Dim 5", 0);
         fault("5 dim", 0);
         fault("(dim 5)", 0);

@@ -174,6 +174,13 @@ public final class RowsTest {
         Due.is("a joint", x.joint(102, 3), 4);
         x.breaks(1, 4);
         Due.is("a lamp", x.lamp(2, 4, 100), 7);
+        x.mend(0, 2);
+        x.mend(1, 4);
+        x.hours(2);
+        Due.is("it burns", x.told(7, 4), 2);
+        Due.is("it is paid", x.cabinetTold(2, 8), 100);
+        x.breaks(0, 2);
+        x.breaks(1, 4);
         x.breaks(2, 7);
         x.dark(7, true);
         x.back();
@@ -185,6 +192,7 @@ public final class RowsTest {
         Due.is("PAID anew", x.cabinetTold(2, 8), 0);
         Due.is("joint not BROKEN", x.jointTold(4, 3), 0);
         Due.is("not OUT", x.told(7, 5), 0);
+        Due.is("not BURNT", x.told(7, 4), 0);
         Due.is("not DARK", x.told(7, 12), 0);
     }
 
@@ -266,5 +274,11 @@ public final class RowsTest {
         for (int what : new int[] {-1, 13, MAX, MIN}) {
             Due.is("count(" + what + ")", x.count(what), BAD);
         }
+        x.breaks(0, 0);
+        Due.is("BROKEN with cabinet 0", x.count(4), 4);
+        x.breaks(1, 0);
+        Due.is("BROKEN with joint 0", x.count(4), 5);
+        x.breaks(2, 0);
+        Due.is("OUT with lamp 0", x.count(3), 3);
     }
 }
