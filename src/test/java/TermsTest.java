@@ -10,9 +10,11 @@ public final class TermsTest {
     private static final int KIND = TownLamps.KIND;
 
     public static void main(String[] args) {
+        aNewObject();
         hourAndDayWrap();
         nightWrapsWithTheShift();
         fedByAllAhead();
+        fedByTwelve();
         asManyAsThereMayBe();
         feastDays();
         dimIsHeld();
@@ -30,6 +32,7 @@ public final class TermsTest {
         numbers();
         openBracketsAndNots();
         theTextThatCounts();
+        aShorterTextBehindALonger();
         worths();
         twoLampsOrMore();
         onlyThoseThatShouldAreBehind();
@@ -47,6 +50,40 @@ public final class TermsTest {
     }
 
     // ---- 1
+
+    /** A new object is as told, whatever was done to others. */
+    private static void aNewObject() {
+        States.FULL.make();
+        TownLamps x = new TownLamps();
+        int[] counts = {0, 0, 0, 0, 0, 0, 0, 0, 0, 18, 0, 0, 0};
+        for (int what = 0; what < counts.length; what++) {
+            Due.is("count(" + what + ") of a new object", x.count(what), counts[what]);
+        }
+        for (int sheet = 0; sheet < 4; sheet++) {
+            Due.is("sheet " + sheet + " is MISSING", x.mark(sheet, 0, 0), TownLamps.NOTHING);
+        }
+        for (int slot = 0; slot < 5; slot++) {
+            Due.is("slot " + slot + " holds nothing", x.lay(slot, 0, 0), 0);
+        }
+        for (int key = 0; key < 4; key++) {
+            Due.is("no TEXT counts for " + key, x.why(key), NONE);
+            Due.is("no LIGHT of " + key, x.light(key), 0);
+        }
+        Due.is("FEAST by 7", x.feast(7), 7);
+        Due.is("no IMAGE", x.back(), NO);
+        Due.is("no IMAGE for check", x.check(1), NO);
+        Due.is("an empty TAPE", x.text(), -100);
+        x.cabinet(0, 1806);
+        x.joint(100, 0);
+        x.lamp(0, 0, 10);
+        Due.is("SHIFT", x.cabinetTold(0, 3), 0);
+        Due.is("BROKEN cabinet", x.cabinetTold(0, 5), 0);
+        Due.is("PAID", x.cabinetTold(0, 8), 0);
+        Due.is("BROKEN joint", x.jointTold(0, 3), 0);
+        Due.is("BURNT", x.told(0, 4), 0);
+        Due.is("OUT", x.told(0, 5), 0);
+        Due.is("told DARK", x.told(0, 12), 0);
+    }
 
     private static void hourAndDayWrap() {
         TownLamps x = new TownLamps();
@@ -126,6 +163,21 @@ public final class TermsTest {
         Due.is("FED beside one that is OUT", x.told(1, 6), 1);
         x.mend(2, 0);
         Due.is("FED when all is whole", x.told(0, 6), 1);
+    }
+
+    private static void fedByTwelve() {
+        TownLamps x = States.FULL.make();
+        // joints 0 to 11 feed on one another; lamp 11 is at the last one, lamp 12 at the first
+        Due.is("FED by all twelve", x.told(11, 6), 1);
+        for (int joint = 0; joint < 12; joint++) {
+            x.breaks(1, joint);
+            Due.is("FED by twelve when " + joint + " is BROKEN", x.told(11, 6), 0);
+            Due.is("FED by the first when " + joint + " is BROKEN", x.told(12, 6), joint == 0 ? 0 : 1);
+            x.mend(1, joint);
+        }
+        x.breaks(0, 2);
+        Due.is("FED by twelve when the CABINET is BROKEN", x.told(11, 6), 0);
+        Due.is("the CABINET of the last", x.jointTold(11, 2), 2);
     }
 
     /** Every call has its answer when all rows are full to the last place. */
@@ -533,6 +585,21 @@ public final class TermsTest {
         Due.is("does not count either", x.told(0, 9), 12);
         Due.is("why still", x.why(0), 12);
         Due.is("texts", x.count(5), 14);
+    }
+
+    private static void aShorterTextBehindALonger() {
+        TownLamps x = new TownLamps();
+        Towns.text(x, "law !!!(5)+7*0");
+        Due.is("law 0", x.tooDark(), 0);
+        Towns.text(x, "law 5");
+        Due.is("law 5", x.tooDark(), 15);
+        Towns.text(x, "law !!!!!!!!0");
+        Due.is("law 0 again", x.tooDark(), 0);
+        Towns.text(x, "law 0+c");
+        Due.is("law by c alone", x.tooDark(), 14);
+        Towns.text(x, "law 0+h+!");
+        Due.is("law by c still", x.tooDark(), 14);
+        Due.is("how many of the shortest", x.textTold(1, 1), 1);
     }
 
     /** A law gives 1 where E is the value due, and then each class is TOO DARK without lamps. */
