@@ -1,3 +1,6 @@
+import java.util.Arrays;
+import java.util.function.Supplier;
+
 /** Promises 41 to 45: rows, images. */
 public final class RowsTest {
     private static final int BAD = TownLamps.BAD;
@@ -13,6 +16,7 @@ public final class RowsTest {
         promise42ByTheImage();
         promise42BeyondTheLastDay();
         promise43And44();
+        promise44Anew();
         textsOfAnImage();
         promise44KeepsOut();
         promise45();
@@ -38,15 +42,19 @@ public final class RowsTest {
     }
 
     private static void promise42() {
-        TownLamps x = Towns.withAll();
-        x.tell(1);
-        Due.is("BAD is ahead of NO", x.check(0), BAD);
-        Due.is("none waits behind BAD", x.count(11), 0);
-        x.tell(1);
-        Due.is("no image", x.check(1), NO);
-        Due.is("none waits behind NO", x.count(11), 0);
-        Towns.text(x, "life 3-(k=2)");
-        x.keep();
+        TownLamps y = Towns.withAll();
+        y.tell(1);
+        Due.is("BAD is ahead of NO", y.check(0), BAD);
+        Due.is("none waits behind BAD", y.count(11), 0);
+        y.tell(1);
+        Due.is("no image", y.check(1), NO);
+        Due.is("none waits behind NO", y.count(11), 0);
+        Supplier<TownLamps> x = () -> {
+            TownLamps town = Towns.withAll();
+            Towns.text(town, "life 3-(k=2)");
+            town.keep();
+            return town;
+        };
         // all cabinets: 219 in the first hour; FEAST and TUBE wear by 2; signs live 2 hours
         int[] due = {219, 0, 219, 4, 151, 7};
         check(x, 3, 0, due);
@@ -76,51 +84,85 @@ public final class RowsTest {
         check(x, 30, 60, long30);
     }
 
-    private static void check(TownLamps x, int n, int due, int... values) {
+    /** Told values are checked by a new object: it changes nothing but what waits. */
+    private static void check(Supplier<TownLamps> town, int n, int due, int... values) {
+        TownLamps x = town.get();
         tellAll(x, values);
-        String before = Towns.all(x);
-        Due.is("check(" + n + ") of " + java.util.Arrays.toString(values), x.check(n), due);
+        Due.is("check(" + n + ") of " + Arrays.toString(values), x.check(n), due);
         Due.is("none waits", x.count(11), 0);
-        tellAll(x, values);
-        Due.same("nothing else changes", Towns.all(x), before);
-        x.check(0);
+        Due.same("nothing else changes", Towns.all(x), Towns.all(town.get()));
     }
 
     private static void promise42ByTheImage() {
-        TownLamps x = Towns.withAll();
-        x.hours(5);
-        x.keep();
-        x.hours(7);
-        x.breaks(0, 0);
-        x.breaks(2, 6);
-        x.feast(1);
-        Towns.text(x, "dim 0");
-        Towns.text(x, "life 1");
+        Supplier<TownLamps> x = () -> {
+            TownLamps town = Towns.withAll();
+            town.hours(5);
+            town.keep();
+            town.hours(7);
+            town.breaks(0, 0);
+            town.breaks(2, 6);
+            town.feast(1);
+            Towns.text(town, "dim 0");
+            Towns.text(town, "life 1");
+            return town;
+        };
         // hour 23 of day 0, then hour 0 of day 1 without the feast
         check(x, 2, 0, 219, 0, 138, 0);
-        x.keep();
-        check(x, 1, 0, 0, 1);
+        Supplier<TownLamps> y = () -> {
+            TownLamps town = x.get();
+            town.keep();
+            return town;
+        };
+        check(y, 1, 0, 0, 1);
     }
 
     private static void promise42BeyondTheLastDay() {
-        TownLamps x = new TownLamps();
-        for (int i = 0; i < 399; i++) {
-            x.hours(60);
-        }
-        x.hours(41);
-        x.cabinet(0, 0);
-        x.joint(100, 0);
-        x.lamp(4, 0, 100);
-        x.feast(8);
-        x.keep();
+        Supplier<TownLamps> x = () -> {
+            TownLamps town = new TownLamps();
+            for (int i = 0; i < 399; i++) {
+                town.hours(60);
+            }
+            town.hours(41);
+            town.cabinet(0, 0);
+            town.joint(100, 0);
+            town.lamp(4, 0, 100);
+            town.feast(8);
+            town.keep();
+            return town;
+        };
         check(x, 2, 0, 0, 0, 15, 0);
-        Towns.text(x, "price d");
-        Due.is("hours", x.hours(1), FULL);
+        Due.is("hours", x.get().hours(1), FULL);
     }
 
     private static void promise43And44() {
+        Due.is("back without an image", Towns.withAll().back(), NO);
+        TownLamps first = ofManyThings();
+        String before = Towns.all(first);
+        Due.is("keep", first.keep(), 21);
+        Due.same("keep changes nothing", Towns.all(first), before);
+        for (int many = 1; many <= 3; many++) {
+            TownLamps x = ofManyThings();
+            x.keep();
+            for (int again = 0; again < many; again++) {
+                changeManyThings(x);
+                Due.is("back", x.back(), 21);
+            }
+            Due.same("all is as it was", Towns.all(x), before);
+            Due.is("FEAST as it was", x.feast(7), 7);
+            Due.is("the chosen as they were", x.choose(3), NO);
+        }
+        TownLamps y = ofManyThings();
+        y.keep();
+        y.hours(1);
+        String later = Towns.all(y);
+        Due.is("keep another", y.keep(), 22);
+        y.hours(1);
+        Due.is("back to the other", y.back(), 22);
+        Due.same("as the other", Towns.all(y), later);
+    }
+
+    private static TownLamps ofManyThings() {
         TownLamps x = Towns.withAll();
-        Due.is("back without an image", x.back(), NO);
         x.hours(3);
         x.shift(0, 1);
         x.dark(2, true);
@@ -131,43 +173,36 @@ public final class RowsTest {
         x.breaks(1, 1);
         x.breaks(2, 0);
         Towns.text(x, "dim 70");
-        String before = Towns.all(x);
-        Due.is("keep", x.keep(), 21);
-        Due.same("keep changes nothing", Towns.all(x), before);
-        for (int again = 0; again < 3; again++) {
-            x.hours(50);
-            x.shift(0, 2);
-            x.shift(1, 2);
-            x.feast(9);
-            x.dark(1, true);
-            x.dark(2, false);
-            x.clear();
-            x.choose(4);
-            x.home();
-            x.stop(0);
-            x.mend(1, 1);
-            x.mend(2, 0);
-            x.breaks(0, 0);
-            x.change(5, 0);
-            x.bill(1);
-            x.cabinet(5, 5);
-            x.joint(3, 5);
-            x.lamp(0, 4, 10);
-            Towns.text(x, "dim 10");
-            Towns.text(x, "law 9");
-            Due.is("back", x.back(), 21);
-            Due.same("all is as it was", Towns.all(x), before);
-            Due.is("FEAST as it was", x.feast(7), 7);
-            Due.is("the chosen as they were", x.choose(3), NO);
-        }
-        x.hours(1);
-        String later = Towns.all(x);
-        Due.is("keep another", x.keep(), 22);
-        x.hours(1);
-        Due.is("back to the other", x.back(), 22);
-        Due.same("as the other", Towns.all(x), later);
-        // what comes new behind an image begins anew
-        x.back();
+        return x;
+    }
+
+    private static void changeManyThings(TownLamps x) {
+        x.hours(50);
+        x.shift(0, 2);
+        x.shift(1, 2);
+        x.feast(9);
+        x.dark(1, true);
+        x.dark(2, false);
+        x.clear();
+        x.choose(4);
+        x.home();
+        x.stop(0);
+        x.mend(1, 1);
+        x.mend(2, 0);
+        x.breaks(0, 0);
+        x.change(5, 0);
+        x.bill(1);
+        x.cabinet(5, 5);
+        x.joint(3, 5);
+        x.lamp(0, 4, 10);
+        Towns.text(x, "dim 10");
+        Towns.text(x, "law 9");
+    }
+
+    /** What comes new behind an image begins anew. */
+    private static void promise44Anew() {
+        TownLamps x = ofManyThings();
+        x.keep();
         Due.is("a cabinet", x.cabinet(1, 102), 2);
         x.shift(2, 3);
         x.breaks(0, 2);

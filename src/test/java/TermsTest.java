@@ -928,22 +928,24 @@ public final class TermsTest {
     }
 
     private static void imageKeepsAll() {
-        TownLamps x = States.SOME.make();
         String image = null;
-        for (int again = 0; again < 3; again++) {
-            x.back();
-            String now = Towns.all(x) + x.feast(again + 1);
-            // the feast that was told is put back, too
-            Due.same("as the image, time " + again, now, image == null ? now : image);
+        for (int many = 1; many <= 3; many++) {
+            TownLamps x = States.SOME.make();
+            for (int again = 1; again <= many; again++) {
+                x.change(again, 5);
+                x.hours(30);
+                x.bill(0);
+                x.clear();
+                x.home();
+                x.mend(1, 2);
+                x.shift(0, again);
+                x.dark(0, true);
+                x.feast(again);
+                Due.is("back", x.back(), 23);
+            }
+            String now = Towns.all(x) + x.feast(1);
+            Due.same("as the image, time " + many, now, image == null ? now : image);
             image = now;
-            x.change(again, 5);
-            x.hours(30);
-            x.bill(0);
-            x.clear();
-            x.home();
-            x.mend(1, 2);
-            x.shift(0, again + 1);
-            x.dark(0, true);
         }
         TownLamps y = new TownLamps();
         Due.is("no image", y.back(), NO);
