@@ -1462,6 +1462,9 @@ public final class TownLamps {
 
     /** THE ROUND. Orders are tried by the order told, so only a lesser way takes an earlier one's place. */
     private static final class Walk {
+        /** Longer than seven ways of 60 each, which no round goes beyond. */
+        private static final int LONGER_THAN_ANY = 1000;
+
         private final int[] stopPlaces = new int[STOPS_MOST];
         private final int[] order = new int[STOPS_MOST];
         final int[] best = new int[STOPS_MOST];
@@ -1475,7 +1478,7 @@ public final class TownLamps {
             for (int i = 0; i < stopCount; i++) {
                 stopPlaces[i] = town.joints[town.stops[i]].place;
             }
-            bestLength = Integer.MAX_VALUE;
+            bestLength = LONGER_THAN_ANY;
             goOn(0, 0, homePlace, 0);
         }
 

@@ -51,7 +51,7 @@ final class Calls {
             case "MIN": return Integer.MIN_VALUE;
             case "MAX": return Integer.MAX_VALUE;
             case "NONE": return TownLamps.NONE;
-            default: return Integer.valueOf(word);
+            default: return word.startsWith("0x") ? Integer.parseUnsignedInt(word.substring(2), 16) : Integer.valueOf(word);
         }
     }
 }
